@@ -141,6 +141,22 @@ public final class PromisesTest {
         dueTags("5 equal ones stay in order", falling, 4, 5, 2, 3, 0, 1);
     }
 
+    private static void promise5MergesKeepEqualOnesInOrder() {
+        int[][] lengths = {{40, 60}, {60, 40}, {50, 50}};
+        for (int[] l : lengths) {
+            PairSorter x = new PairSorter(100);
+            x.fill(l[0], 0, 1, 0, 0);
+            x.fill(l[1], 0, 1, 0, 1000);
+            due("5 merged", x.run(), 2);
+            for (int key = 0; key < 40; key++) {
+                due("5 merged: first key " + key, x.keyAt(2 * key), key);
+                due("5 merged: first tag " + key, x.tagAt(2 * key), key);
+                due("5 merged: second key " + key, x.keyAt(2 * key + 1), key);
+                due("5 merged: second tag " + key, x.tagAt(2 * key + 1), 1000 + key);
+            }
+        }
+    }
+
     private static void promise5Height() {
         due("5 one run", heightOf(100), 1);
         due("5 two runs", heightOf(60, 40), 2);
@@ -241,7 +257,7 @@ public final class PromisesTest {
     private static void promise10Merges() {
         dueWork("10 falling heap", withRuns(400, 200, 100, 50), 3, 150 + 350 + 750);
         dueWork("10 y below w", withRuns(60, 40, 80), 2, 100 + 180);
-        dueWork("10 y equal to w", withRuns(40, 30, 40), 2, 70 + 110);
+        dueWork("10 y equal to w", withRuns(40, 30, 40, 35), 3, 70 + 110 + 145);
         dueWork("10 z equal to w", withRuns(40, 40), 1, 80);
         dueWork("10 y equal to z and w", withRuns(70, 40, 30), 2, 70 + 140);
         dueWork("10 y one above z and w", withRuns(71, 40, 30), 2, 70 + 141);
@@ -323,6 +339,7 @@ public final class PromisesTest {
         promise3Fill();
         promise4Turn();
         promise5RunSorts();
+        promise5MergesKeepEqualOnesInOrder();
         promise5Height();
         promises6And7KeyAtAndTagAt();
         promise8Size();
