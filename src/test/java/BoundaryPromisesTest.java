@@ -452,10 +452,12 @@ public final class BoundaryPromisesTest {
         Check.due("11 what is before does not count", Check.withKeys(9, 1, 2).sorted(1), 2);
         Check.due("11 from least to greatest", Check.withKeys(MIN, MAX).sorted(0), 2);
         Check.due("11 from greatest to least", Check.withKeys(MAX, MIN).sorted(0), 1);
-        PairSorter tags = new PairSorter(2);
+        PairSorter tags = new PairSorter(4);
+        tags.put(1, 0);
         tags.put(1, 9);
+        tags.put(1, 8);
         tags.put(1, -9);
-        Check.due("11 tags do not count", tags.sorted(0), 2);
+        Check.due("11 tags do not count", tags.sorted(0), 4);
     }
 
     // Promise 12: "The list is empty"

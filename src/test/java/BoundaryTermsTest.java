@@ -60,6 +60,11 @@ public final class BoundaryTermsTest {
     // "SORTED: pairs with the same key as they were, one behind the other"
     private static void sameKeysStayAsTheyWere() {
         Check.dueSorted("all the same", sixtyFourBeginningWith(new int[64]), 1);
+        PairSorter falling = new PairSorter(64);
+        falling.fill(64, 5, 0, 0, -32);
+        falling.turn(0, 64);
+        Check.dueSorted("falling tags", falling, 1);
+        Check.dueRuns("falling tags", falling, 64);
         Check.dueSorted("a falling run in pairs", Check.withKeys(3, 3, 2, 2, 1, 1, 0, 0), 1);
         int[] ends = {MIN, -1, 0, MAX};
         for (int key : ends) {
@@ -69,12 +74,16 @@ public final class BoundaryTermsTest {
         }
         int[] moduli = {1, 2, 3, 16, 17, 4095};
         for (int m : moduli) {
-            PairSorter x = new PairSorter(4096);
-            x.fill(4096, 1, 7919, m, 0);
-            PairSorter again = new PairSorter(4096);
-            again.fill(4096, 1, 7919, m, 0);
-            Check.dueSorted("modulo " + m, x, again.run());
+            Check.dueSorted("modulo " + m, turnedRound(m), turnedRound(m).run());
         }
+    }
+
+    /** A full list whose tags fall, so that sorting by them would not leave equal keys in order. */
+    private static PairSorter turnedRound(int m) {
+        PairSorter x = new PairSorter(4096);
+        x.fill(4096, 1, 7919, m, 0);
+        x.turn(0, 4096);
+        return x;
     }
 
     // "LEAST for n pairs: n is halved (cut) until it is below 32"

@@ -99,7 +99,8 @@ final class Check {
     static PairSorter withRuns(int... lengths) {
         PairSorter x = new PairSorter(4096);
         for (int i = 0; i < lengths.length; i++) {
-            x.fill(lengths[i], i, 1, 0, 1000 * i);
+            // The tags of a later run are lower: they must not count where keys are equal.
+            x.fill(lengths[i], i, 1, 0, 4096 * (lengths.length - i));
         }
         return x;
     }
